@@ -1593,7 +1593,7 @@ public final class TelegraphHouse {
             for (int l = 0; l < lineCount; l++) {
                 Line line = lineAt(l);
                 for (int way = 0; way < Line.WAYS && line != null; way++) {
-                    come += endRun(l, line, way);
+                    come += endRun(line, way);
                 }
             }
             int hour = minute / HOUR_MINUTES % DAY_HOURS;
@@ -1608,14 +1608,14 @@ public final class TelegraphHouse {
         }
 
         /** Ends the run on a way of a line, if its time is now: 1 if its message has come, else 0. */
-        private int endRun(int lineNumber, Line line, int way) {
+        private int endRun(Line line, int way) {
             Journey j = journeyAt(line.runners[way]);
             if (j == null || line.endMinutes[way] != minute) {
                 return 0;
             }
             line.runners[way] = NONE;
             if (j.isDoomed) {
-                loseOn(lineNumber, j);
+                beLost(j);
                 return 0;
             }
             j.leg++;
@@ -1627,10 +1627,10 @@ public final class TelegraphHouse {
             return 1;
         }
 
-        private void loseOn(int lineNumber, Journey j) {
+        /** Its place stays the line on which it ran. */
+        private void beLost(Journey j) {
             j.isDoomed = false;
             j.state = LOST;
-            j.place = lineNumber;
             j.timesLost++;
         }
 

@@ -16,6 +16,7 @@ public final class FormTest {
         expansion();
         failures();
         bests();
+        longestForms();
         Due.end();
     }
 
@@ -55,6 +56,10 @@ public final class FormTest {
         for (int m = 0; m < want.length; m++) {
             Due.due("count of message " + m, x.about(m, 1), want[m]);
         }
+        TelegraphHouse y = Due.withBook(0, 1, "one two three");
+        Due.message(y, "one two three");
+        y.condense(0, 0);
+        Due.due("one group counts one", y.about(0, 1), 1);
     }
 
     private static void condenseRefusals() {
@@ -338,5 +343,45 @@ public final class FormTest {
         Due.due("book", x.about(0, 3), 2);
         Due.due("unknown", x.best(1), TelegraphHouse.UNKNOWN);
         Due.due("unknown below", x.best(-1), TelegraphHouse.UNKNOWN);
+    }
+
+    private static void longestForms() {
+        TelegraphHouse x = Due.withBook(0, 1, "a b c d");
+        StringBuilder longest = new StringBuilder();
+        for (int i = 0; i < 20; i++) {
+            longest.append("zzzzzzzzzzzz ");
+        }
+        Due.message(x, longest.toString());
+        Due.due("80 groups are the best there is", x.best(0), 0);
+        Due.due("80 groups", x.condense(0, 0), 80);
+        Due.due("they expand", x.expands(0), 1);
+        Due.due("group 79", x.group(0, 79), Due.group(23, 25, 0, 0, 0));
+        Due.due("no group 80", x.group(0, 80), TelegraphHouse.UNKNOWN);
+        Due.due("part 19", x.part(0, 19, 0), 1);
+        Due.due("no part 20", x.part(0, 20, 0), TelegraphHouse.UNKNOWN);
+        for (int k = 0; k < 80; k++) {
+            setGroup(x, k, x.groupOf(0, 0));
+        }
+        Due.due("320 tokens are told", x.expands(0), 0);
+        Due.message(x, "a b c d a b c d a b c d a b c d a b c d");
+        Due.due("5 groups", x.condense(1, 0), 5);
+        Due.due("of 20 tokens", x.expands(1), 1);
+        for (int m = 2; m < 30; m++) {
+            Due.message(x, "a b c d e");
+            x.condense(m, 0);
+        }
+        Due.due("the last message", x.about(29, 2), 2);
+        Due.due("no message 30", x.about(30, 2), TelegraphHouse.UNKNOWN);
+        Due.due("no message 31", x.expands(31), TelegraphHouse.UNKNOWN);
+        tokensBehindTheLast();
+    }
+
+    /** Twenty tokens are told as they are, and then one more. */
+    private static void tokensBehindTheLast() {
+        TelegraphHouse x = Due.withBook(0, 1, "a b c d", "d");
+        Due.message(x, "d d d d d d d d d d d d d d d d d d d a");
+        Due.due("20 groups", x.condense(0, 0), 20);
+        setGroup(x, 19, x.groupOf(0, 0));
+        Due.due("23 tokens are told", x.expands(0), 0);
     }
 }

@@ -55,6 +55,27 @@ public final class NetTest {
         }
         Due.due("full", x.station(), FULL);
         Due.due("eight", x.count(2), 8);
+        Due.due("the last station", x.ledger(7, 3), 0);
+        Due.due("no station 8", x.ledger(8, 0), UNKNOWN);
+        Due.due("no path to it", x.path(0, 8, 0), UNKNOWN);
+        allThirty();
+    }
+
+    /** As many messages as there may be, all sent. */
+    private static void allThirty() {
+        TelegraphHouse x = net(2, 30);
+        x.line(0, 1, 1, 0, 0);
+        for (int m = 0; m < 30; m++) {
+            Due.due("sent " + m, x.send(m, 0, 1, m % 3), m + 1);
+        }
+        Due.due("no message 30", x.where(30, 0), UNKNOWN);
+        Due.due("no message 31", x.where(31, 0), UNKNOWN);
+        Due.due("none to send", x.send(30, 0, 1, 0), UNKNOWN);
+        Due.due("the last of the queue", x.queue(0, 29), 27);
+        Due.due("none behind it", x.queue(0, 30), NONE);
+        Due.due("all come", x.step(31), 30);
+        Due.due("all came", x.ledger(1, 1), 30);
+        Due.due("the last one", x.where(27, 2), 30);
     }
 
     private static void lines() {
@@ -79,6 +100,9 @@ public final class NetTest {
         Due.due("state ahead of full", x.line(1, 1, 1, 0, 0), STATE);
         Due.due("full", x.line(0, 2, 1, 0, 0), FULL);
         Due.due("twelve", x.count(3), 12);
+        Due.due("the last line", x.lose(11), 1);
+        Due.due("no line 12", x.lose(12), UNKNOWN);
+        Due.due("no line 13", x.lose(13), UNKNOWN);
     }
 
     private static void path(TelegraphHouse x, int a, int b, int minutes, int... stations) {

@@ -10,6 +10,7 @@ public final class SumTest {
         twoBlocks();
         mendedSince();
         everyHurt();
+        shorterForm();
         Due.end();
     }
 
@@ -183,6 +184,16 @@ public final class SumTest {
         x.hurt(0, 0, 3, 0);
         Due.due("place 3 takes it, though it is wrong", x.mend(0), 1);
         Due.due("now", x.group(0, 0), Due.group(25, 1, 2, 0, 7));
+        // One less at places 2 and 4 tells place 3 and two more for it.
+        for (int letter = 22; letter < 26; letter++) {
+            x.hurt(0, 0, 1, 2);
+            x.hurt(0, 0, 2, letter);
+            x.hurt(0, 0, 3, 1);
+            x.guard(0);
+            x.hurt(0, 0, 1, 1);
+            x.hurt(0, 0, 3, 0);
+            Due.due("place 3 with " + letter, x.mend(0), letter < 24 ? 1 : 2);
+        }
     }
 
     private static void twoBlocks() {
@@ -239,5 +250,43 @@ public final class SumTest {
             }
         }
         Due.due("expands", x.expands(0), 1);
+    }
+
+    /** Letters of a longer form that was there before count no more. */
+    private static void shorterForm() {
+        TelegraphHouse x = Due.withBook(0, 1, "carriage way");
+        x.book(0, 1);
+        x.close(1);
+        Due.message(x, "1 carriage way");
+        Due.due("spelled", x.condense(0, 1), 5);
+        x.guard(0);
+        Due.due("condensed", x.condense(0, 0), 2);
+        Due.due("one block", x.guard(0), 1);
+        // 25 0 0 0 1, and sound group 0, which is five times 0.
+        Due.due("A", x.sum(0, 0, 0), 26);
+        Due.due("B", x.sum(0, 0, 1), 30);
+        x.hurt(0, 1, 4, 9);
+        Due.due("mends the last letter", x.mend(0), 1);
+        Due.due("expands", x.expands(0), 1);
+        nineThenEight();
+    }
+
+    /** The second block's last group alone: places behind its end are not looked at. */
+    private static void nineThenEight() {
+        TelegraphHouse x = Due.withBook(0, 1, "carriage way");
+        x.book(0, 1);
+        x.close(1);
+        Due.message(x, "1 2 3 4 5 6 7 8 carriage way");
+        Due.due("spelled", x.condense(0, 1), 12);
+        Due.due("condensed", x.condense(0, 0), 9);
+        Due.due("two blocks", x.guard(0), 2);
+        Due.due("A", x.sum(0, 1, 0), 0);
+        Due.due("B", x.sum(0, 1, 1), 0);
+        // Place 4 takes 1 more and place 5 takes 2 more: no place of the block fits.
+        x.hurt(0, 8, 3, 1);
+        x.hurt(0, 8, 4, 2);
+        Due.due("a = 3, b = 14", x.mend(0), 2);
+        x.hurt(0, 8, 3, 0);
+        Due.due("a = 2, b = 10", x.mend(0), 1);
     }
 }
