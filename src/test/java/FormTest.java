@@ -129,13 +129,22 @@ public final class FormTest {
         Due.due("part 1 covers", x.part(0, 1, 1), 4);
     }
 
-    /** Short words: the groups of two ways are as many, but not their parts. */
+    /** The groups of two ways are as many, but not their parts. */
     private static void fewestParts() {
-        TelegraphHouse x = Due.withBook(0, 1, "long carriage", "carriage", "a long");
-        Due.message(x, "a long carriage 5000000");
+        fewestParts("up", "up sell the", "the carriage");
+        fewestParts("up sell the", "up", "the carriage");
+        fewestParts("the carriage", "up sell the", "up");
+        fewestParts("the carriage", "up sell the");
+    }
+
+    /** One phrase and three groups of a word, not "up", two groups of a word, and a phrase. */
+    private static void fewestParts(String... phrases) {
+        TelegraphHouse x = Due.withBook(0, 1, phrases);
+        Due.message(x, "up sell the carriage");
         Due.due("groups", x.condense(0, 0), 4);
-        Due.due("parts", x.about(0, 4), 3);
-        Due.due("first covers two", x.part(0, 0, 1), 2);
+        Due.due("parts", x.about(0, 4), 2);
+        Due.due("first covers three", x.part(0, 0, 1), 3);
+        Due.due("then a word", x.part(0, 1, 0), 1);
     }
 
     private static void moreTokensFirst() {
@@ -146,6 +155,10 @@ public final class FormTest {
         Due.due("two at first", x.part(0, 0, 2), 2);
         Due.due("then one", x.part(0, 1, 2), 3);
         Due.due("then one more", x.part(0, 2, 2), 4);
+        TelegraphHouse y = Due.withBook(0, 1, "a b", "b c", "a", "c", "d");
+        Due.message(y, "a b c d");
+        y.condense(0, 0);
+        Due.due("two at first, however they are numbered", y.part(0, 0, 2), 0);
     }
 
     private static void phraseAheadOfSpelled() {

@@ -7,12 +7,14 @@ public final class ModelTest {
     private static final String[] WORDS = {
         "a", "b", "at", "up", "the", "sell", "stop", "buy", "carriage", "midnight", "abcdefghijkl", "zzzz",
     };
+    private static final String[] FEW_WORDS = {"up", "sell", "carriage", "the"};
     private static final int[] ODD = {
         -1, -2, 3, 8, 12, 26, 30, 80, 1000, 10000, Integer.MAX_VALUE, Integer.MIN_VALUE, -9,
     };
 
     private final Random chance;
     private final int temper;
+    private final int wordCount;
     private final TelegraphHouse x = new TelegraphHouse();
     private final Model y = new Model();
     private int calls;
@@ -21,6 +23,7 @@ public final class ModelTest {
     private ModelTest(int run) {
         chance = new Random(7919L * run + 1);
         temper = run % 4;
+        wordCount = chance.nextInt(3) == 0 ? WORDS.length : 2 + chance.nextInt(3);
         name = "run " + run;
     }
 
@@ -78,11 +81,17 @@ public final class ModelTest {
         }
     }
 
+    /** In some runs all words are of a few, so that phrases often stand in a message. */
+    private String word() {
+        return wordCount < WORDS.length
+                ? FEW_WORDS[chance.nextInt(wordCount)] : WORDS[chance.nextInt(wordCount)];
+    }
+
     private String text(int most, int numbersIn) {
         StringBuilder s = new StringBuilder();
         int n = 1 + chance.nextInt(most);
         for (int i = 0; i < n; i++) {
-            s.append(chance.nextInt(numbersIn) == 0 ? number() : WORDS[chance.nextInt(WORDS.length)]);
+            s.append(chance.nextInt(numbersIn) == 0 ? number() : word());
             s.append(chance.nextInt(8) == 0 ? "  " : " ");
         }
         if (chance.nextInt(25) == 0) {
@@ -151,6 +160,9 @@ public final class ModelTest {
         same("mend", x.mend(m), y.mend(m));
         for (int k = 0; k < x.about(m, 2); k++) {
             same("group " + k, x.group(m, k), y.group(m, k));
+        }
+        for (int i = 0; i < x.about(m, 4); i++) {
+            same("part " + i, x.part(m, i, 2), y.part(m, i, 2));
         }
         same("expands", x.expands(m), y.expands(m));
     }
