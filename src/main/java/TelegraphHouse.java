@@ -1389,6 +1389,8 @@ public final class TelegraphHouse {
         private final int[] costs = new int[MOST_STATIONS];
         final Route route = new Route();
         int minute;
+        private int messagesSent;
+        // Asking for a message again is a sending more, but no message more.
         private int sendings;
 
         int addStation() {
@@ -1543,15 +1545,16 @@ public final class TelegraphHouse {
             return rest != NO_COST && rest + legCost(line) == costOf(station);
         }
 
-        /** Sends a message along the route that was found last: how many were sent till now. */
+        /** Sends a message along the route that was found last: how many messages were sent till now. */
         int dispatch(int message, int priority, int sentCount) {
             Journey j = journeyAt(message);
             if (j != null) {
                 j.priority = priority;
                 j.sentCount = sentCount;
+                messagesSent++;
                 setOut(j);
             }
-            return sendings;
+            return messagesSent;
         }
 
         private void setOut(Journey j) {

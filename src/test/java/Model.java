@@ -63,7 +63,7 @@ final class Model {
     private final List<int[]> stations = new ArrayList<>();
     private final List<Ln> lines = new ArrayList<>();
     private int clock;
-    private int sent;
+    private int launches;
 
     Model() {
         if (sound == null) {
@@ -774,6 +774,10 @@ final class Model {
         m.b = b;
         m.priority = priority;
         launch(m);
+        int sent = 0;
+        for (Msg other : messages) {
+            sent += other.state == 0 ? 0 : 1;
+        }
         return sent;
     }
 
@@ -788,7 +792,7 @@ final class Model {
         m.leg = 0;
         m.state = 1;
         m.place = m.a;
-        m.order = ++sent;
+        m.order = ++launches;
         stations.get(m.a)[0]++;
         stations.get(m.a)[2] += countOf(m);
     }

@@ -23,6 +23,7 @@ public final class NetTest {
         losses();
         lossesEitherWay();
         asking();
+        askedForIsNoMessageMore();
         askingByNewPath();
         keptPath();
         ledgers();
@@ -443,7 +444,7 @@ public final class NetTest {
         Due.due("queue 0", x.queue(0, 0), 0);
         Due.due("queue 1", x.queue(0, 1), 4);
         Due.due("queue 2", x.queue(0, 2), 3);
-        Due.due("asked for counts as sent", x.send(2, 0, 1, 2), 8);
+        Due.due("five messages sent, three of them asked for again", x.send(2, 0, 1, 2), 5);
         x.step(30);
         Due.due("all came", x.count(7), 5);
         x.step(1);
@@ -469,6 +470,53 @@ public final class NetTest {
         Due.due("asked for again", x.ask(1), 1);
         x.step(10);
         where(x, "came", 0, 3, 1, 21);
+    }
+
+    /** What send() answers are messages; the ledger has what was asked for again as one more. */
+    private static void askedForIsNoMessageMore() {
+        TelegraphHouse x = net(3, 4);
+        x.line(0, 1, 1, 0, 0);
+        Due.due("first", x.send(2, 0, 1, 0), 1);
+        for (int i = 1; i <= 3; i++) {
+            x.lose(0);
+            x.step(2);
+            Due.due("asked for " + i, x.ask(1), 1);
+            Due.due("sent by the ledger " + i, x.ledger(0, 0), 1 + i);
+        }
+        Due.due("second", x.send(3, 0, 1, 0), 2);
+        Due.due("refused: no path", x.send(0, 0, 2, 0), STATE);
+        Due.due("refused: it was sent", x.send(2, 0, 1, 0), STATE);
+        x.lose(0);
+        x.step(2);
+        Due.due("lost", x.count(8), 1);
+        Due.due("third, the first one being lost", x.send(0, 0, 1, 0), 3);
+        x.step(9);
+        Due.due("two came", x.count(7), 2);
+        Due.due("asked for at last", x.ask(1), 1);
+        Due.due("fourth, two having come", x.send(1, 1, 0, 0), 4);
+        Due.due("seven by the ledger of 0", x.ledger(0, 0), 7);
+        Due.due("one by the ledger of 1", x.ledger(1, 0), 1);
+        orderGoesOn();
+    }
+
+    /** What is asked for again is no message more, but it waits behind all that were sent ahead. */
+    private static void orderGoesOn() {
+        TelegraphHouse x = net(2, 3);
+        x.line(0, 1, 1, 0, 0);
+        x.lose(0);
+        Due.due("first", x.send(1, 0, 1, 0), 1);
+        x.step(2);
+        Due.due("second", x.send(2, 0, 1, 0), 2);
+        Due.due("the first one again", x.ask(1), 1);
+        Due.due("third", x.send(0, 0, 1, 0), 3);
+        int[] order = {2, 1, 0};
+        for (int k = 0; k < 3; k++) {
+            Due.due("queue as they were sent " + k, x.queue(0, k), order[k]);
+        }
+        x.step(4);
+        for (int k = 0; k < 3; k++) {
+            Due.due("came as they were sent " + k, x.where(order[k], 2), 3 + k);
+        }
     }
 
     private static void askingByNewPath() {
