@@ -112,6 +112,10 @@ public final class BookTest {
         int[] wanted = soundByRule();
         TelegraphHouse y = new TelegraphHouse();
         for (int n = 9999; n >= 0; n--) {
+            // An object is used for 512 calls at most.
+            if (n % 500 == 0) {
+                y = new TelegraphHouse();
+            }
             Due.due("sound " + n, y.sound(n), wanted[n]);
         }
         for (int n = 0; n < 10000; n += 97) {
@@ -161,14 +165,16 @@ public final class BookTest {
     }
 
     private static int leastByRule(TelegraphHouse x, int book, int n) {
+        String[] groups = new String[n];
+        for (int i = 0; i < n; i++) {
+            groups[i] = String.format("%1$7s", Integer.toString(x.groupOf(book, i), 26)).replace(' ', '0');
+        }
         int least = 5;
         for (int i = 0; i < n; i++) {
             for (int j = i + 1; j < n; j++) {
-                String p = String.format("%1$7s", Integer.toString(x.groupOf(book, i), 26)).replace(' ', '0');
-                String q = String.format("%1$7s", Integer.toString(x.groupOf(book, j), 26)).replace(' ', '0');
                 int unlike = 0;
                 for (int k = 0; k < 7; k++) {
-                    unlike += p.charAt(k) == q.charAt(k) ? 0 : 1;
+                    unlike += groups[i].charAt(k) == groups[j].charAt(k) ? 0 : 1;
                 }
                 least = Math.min(least, unlike);
             }

@@ -245,15 +245,15 @@ public final class FormTest {
         Due.due("as it was", x.expands(0), 1);
         Due.message(x, "a 7 up");
         x.condense(1, 0);
-        setGroup(x, 1, 0, x.groupOf(0, 0));
+        Due.setGroup(x, 1, 0, x.groupOf(0, 0));
         Due.due("another phrase: a token too many", x.expands(1), 0);
         // The same tokens, otherwise told: "a b" is two spelled groups as well.
         Due.message(x, "ab c");
         x.condense(2, 0);
-        setGroup(x, 2, 0, Due.group(23, 2, 0, 1, 0));
-        setGroup(x, 2, 1, Due.group(23, 1, 2, 0, 0));
+        Due.setGroup(x, 2, 0, Due.group(23, 2, 0, 1, 0));
+        Due.setGroup(x, 2, 1, Due.group(23, 1, 2, 0, 0));
         Due.due("told alike", x.expands(2), 1);
-        setGroup(x, 2, 0, x.groupOf(0, 1));
+        Due.setGroup(x, 2, 0, x.groupOf(0, 1));
         Due.due("a phrase instead", x.expands(2), 0);
         lastTokenMissing();
     }
@@ -268,15 +268,7 @@ public final class FormTest {
     }
 
     private static void setGroup(TelegraphHouse x, int k, int group) {
-        setGroup(x, 0, k, group);
-    }
-
-    private static void setGroup(TelegraphHouse x, int message, int k, int group) {
-        int rest = group;
-        for (int place = 4; place >= 0; place--) {
-            x.hurt(message, k, place, rest % 26);
-            rest /= 26;
-        }
+        Due.setGroup(x, 0, k, group);
     }
 
     private static void failures() {
@@ -372,10 +364,18 @@ public final class FormTest {
         Due.due("no group 80", x.group(0, 80), TelegraphHouse.UNKNOWN);
         Due.due("part 19", x.part(0, 19, 0), 1);
         Due.due("no part 20", x.part(0, 20, 0), TelegraphHouse.UNKNOWN);
+        int phrase = x.groupOf(0, 0);
         for (int k = 0; k < 80; k++) {
-            setGroup(x, k, x.groupOf(0, 0));
+            setGroup(x, k, phrase);
         }
         Due.due("320 tokens are told", x.expands(0), 0);
+        thirtyForms();
+        tokensBehindTheLast();
+    }
+
+    private static void thirtyForms() {
+        TelegraphHouse x = Due.withBook(0, 1, "a b c d");
+        Due.message(x, "z");
         Due.message(x, "a b c d a b c d a b c d a b c d a b c d");
         Due.due("5 groups", x.condense(1, 0), 5);
         Due.due("of 20 tokens", x.expands(1), 1);
@@ -386,7 +386,6 @@ public final class FormTest {
         Due.due("the last message", x.about(29, 2), 2);
         Due.due("no message 30", x.about(30, 2), TelegraphHouse.UNKNOWN);
         Due.due("no message 31", x.expands(31), TelegraphHouse.UNKNOWN);
-        tokensBehindTheLast();
     }
 
     /** Twenty tokens are told as they are, and then one more. */

@@ -1,9 +1,10 @@
 import java.util.Random;
 
-/** Runs of 512 calls drawn by chance, from a fixed seed, each answer compared with the model's. */
+/** Runs of calls drawn by chance, from a fixed seed, each answer compared with the model's. */
 public final class ModelTest {
-    private static final int RUNS = 600;
-    private static final int CALLS = 512;
+    private static final int RUNS = 800;
+    // A draw makes some 120 calls at most, and an object is used for 512.
+    private static final int CALLS = 390;
     private static final String[] WORDS = {
         "a", "b", "at", "up", "the", "sell", "stop", "buy", "carriage", "midnight", "abcdefghijkl", "zzzz",
     };
@@ -55,11 +56,11 @@ public final class ModelTest {
     }
 
     private int message() {
-        return below(Math.max(1, x.count(1)));
+        return below(Math.max(1, y.count(1)));
     }
 
     private int station() {
-        return below(Math.max(1, x.count(2)));
+        return below(Math.max(1, y.count(2)));
     }
 
     private void feed(String text) {
@@ -120,9 +121,9 @@ public final class ModelTest {
 
     private void codes() {
         int c = chance.nextInt(40);
-        if (x.count(0) < 3 && chance.nextInt(20) == 0) {
+        if (y.count(0) < 3 && chance.nextInt(20) == 0) {
             anyCall(3);
-        } else if (x.count(0) > 0 && x.count(1) < 2) {
+        } else if (y.count(0) > 0 && y.count(1) < 2) {
             newPhrase();
             if (chance.nextInt(10) == 0) {
                 newMessage(20);
@@ -147,7 +148,7 @@ public final class ModelTest {
         }
         int times = chance.nextInt(3);
         for (int i = 0; i < times; i++) {
-            int k = below(Math.max(1, x.about(m, 2)));
+            int k = below(Math.max(1, y.about(m, 2)));
             int place = below(5);
             int letter = below(26);
             if (chance.nextBoolean()) {
@@ -158,10 +159,10 @@ public final class ModelTest {
             same("expands", x.expands(m), y.expands(m));
         }
         same("mend", x.mend(m), y.mend(m));
-        for (int k = 0; k < x.about(m, 2); k++) {
+        for (int k = 0; k < y.about(m, 2); k++) {
             same("group " + k, x.group(m, k), y.group(m, k));
         }
-        for (int i = 0; i < x.about(m, 4); i++) {
+        for (int i = 0; i < y.about(m, 4); i++) {
             same("part " + i, x.part(m, i, 2), y.part(m, i, 2));
         }
         same("expands", x.expands(m), y.expands(m));
@@ -169,11 +170,11 @@ public final class ModelTest {
 
     private void net() {
         int c = chance.nextInt(30);
-        if (x.count(2) < 3 || c == 0) {
+        if (y.count(2) < 3 || c == 0) {
             anyCall(22);
-        } else if (x.count(3) < 3 || c == 1) {
+        } else if (y.count(3) < 3 || c == 1) {
             anyCall(23);
-        } else if (c == 2 || x.count(1) < 3) {
+        } else if (c == 2 || y.count(1) < 3) {
             newMessage(3);
         } else if (c < 8) {
             anyCall(26);
@@ -221,7 +222,7 @@ public final class ModelTest {
 
     private void ofMessage(int which) {
         int m = message();
-        int k = below(Math.max(1, x.about(m, 2)));
+        int k = below(Math.max(1, y.about(m, 2)));
         int w = below(7);
         int b = below(3);
         int l = below(26);
@@ -249,7 +250,7 @@ public final class ModelTest {
         int b = station();
         int m = message();
         int w = below(10);
-        int line = below(Math.max(1, x.count(3)));
+        int line = below(Math.max(1, y.count(3)));
         switch (which) {
             case 22: same("station", x.station(), y.station()); break;
             case 23:
@@ -280,7 +281,7 @@ public final class ModelTest {
     }
 
     private void allStates() {
-        for (int m = 0; m < x.count(1); m++) {
+        for (int m = 0; m < y.count(1); m++) {
             for (int what = 0; what < 4; what++) {
                 same("where " + m + " " + what, x.where(m, what), y.where(m, what));
             }

@@ -31,18 +31,6 @@ public final class NetTest {
         Due.end();
     }
 
-    /** Stations in a number, and messages "a", "a", .. in a number. */
-    private static TelegraphHouse net(int stations, int messages) {
-        TelegraphHouse x = new TelegraphHouse();
-        for (int i = 0; i < stations; i++) {
-            x.station();
-        }
-        for (int i = 0; i < messages; i++) {
-            Due.message(x, "a");
-        }
-        return x;
-    }
-
     private static void where(TelegraphHouse x, String when, int message, int state, int place, int came) {
         Due.due(when + ": how it is", x.where(message, 0), state);
         Due.due(when + ": its place", x.where(message, 1), place);
@@ -64,7 +52,7 @@ public final class NetTest {
 
     /** As many messages as there may be, all sent. */
     private static void allThirty() {
-        TelegraphHouse x = net(2, 30);
+        TelegraphHouse x = Due.net(2, 30);
         x.line(0, 1, 1, 0, 0);
         for (int m = 0; m < 30; m++) {
             Due.due("sent " + m, x.send(m, 0, 1, m % 3), m + 1);
@@ -80,7 +68,7 @@ public final class NetTest {
     }
 
     private static void lines() {
-        TelegraphHouse x = net(3, 0);
+        TelegraphHouse x = Due.net(3, 0);
         Due.due("unknown a", x.line(3, 0, 1, 0, 0), UNKNOWN);
         Due.due("unknown a below", x.line(-1, 0, 1, 0, 0), UNKNOWN);
         Due.due("unknown b", x.line(0, 3, 0, 0, 0), UNKNOWN);
@@ -117,7 +105,7 @@ public final class NetTest {
     }
 
     private static void paths() {
-        TelegraphHouse x = net(5, 0);
+        TelegraphHouse x = Due.net(5, 0);
         path(x, 2, 2, 0, 2);
         path(x, 0, 1, NONE);
         x.line(0, 1, 20, 0, 0);
@@ -141,7 +129,7 @@ public final class NetTest {
     }
 
     private static void pathTies() {
-        TelegraphHouse x = net(8, 0);
+        TelegraphHouse x = Due.net(8, 0);
         x.line(0, 1, 2, 0, 0);
         x.line(1, 2, 2, 0, 0);
         x.line(2, 7, 2, 0, 0);
@@ -165,7 +153,7 @@ public final class NetTest {
 
     /** 0 1 6 7 goes ahead of 0 2 3 7: the first place where they are unlike decides. */
     private static void firstPlaceUnlike() {
-        TelegraphHouse x = net(8, 0);
+        TelegraphHouse x = Due.net(8, 0);
         x.line(0, 2, 1, 0, 0);
         x.line(2, 3, 1, 0, 0);
         x.line(3, 7, 1, 0, 0);
@@ -177,7 +165,7 @@ public final class NetTest {
     }
 
     private static void longest() {
-        TelegraphHouse x = net(8, 1);
+        TelegraphHouse x = Due.net(8, 1);
         for (int i = 0; i < 7; i++) {
             x.line(i + 1, i, 60, 0, 0);
         }
@@ -191,7 +179,7 @@ public final class NetTest {
     }
 
     private static void sends() {
-        TelegraphHouse x = net(3, 3);
+        TelegraphHouse x = Due.net(3, 3);
         x.line(0, 1, 5, 0, 0);
         Due.due("unknown message", x.send(3, 0, 1, 9), UNKNOWN);
         Due.due("unknown message below", x.send(-1, 0, 1, 9), UNKNOWN);
@@ -234,7 +222,7 @@ public final class NetTest {
     }
 
     private static void oneRun() {
-        TelegraphHouse x = net(2, 1);
+        TelegraphHouse x = Due.net(2, 1);
         x.line(0, 1, 3, 0, 0);
         x.send(0, 0, 1, 1);
         where(x, "waits", 0, 1, 0, NONE);
@@ -251,7 +239,7 @@ public final class NetTest {
 
     /** What comes to a station goes on in the same minute, if its line is free. */
     private static void twoLegs() {
-        TelegraphHouse x = net(3, 2);
+        TelegraphHouse x = Due.net(3, 2);
         x.line(2, 1, 4, 0, 0);
         x.line(0, 1, 3, 0, 0);
         x.send(0, 0, 2, 0);
@@ -272,7 +260,7 @@ public final class NetTest {
 
     /** Each way of a line carries one at a time, whoever runs the other way. */
     private static void bothWays() {
-        TelegraphHouse x = net(2, 3);
+        TelegraphHouse x = Due.net(2, 3);
         x.line(0, 1, 3, 0, 0);
         x.send(0, 0, 1, 0);
         x.send(1, 1, 0, 0);
@@ -288,7 +276,7 @@ public final class NetTest {
     }
 
     private static void hours() {
-        TelegraphHouse x = net(2, 2);
+        TelegraphHouse x = Due.net(2, 2);
         x.line(0, 1, 50, 1, 2);
         x.send(0, 0, 1, 0);
         x.send(1, 0, 1, 0);
@@ -306,7 +294,7 @@ public final class NetTest {
     }
 
     private static void shutAgain() {
-        TelegraphHouse x = net(2, 1);
+        TelegraphHouse x = Due.net(2, 1);
         x.line(0, 1, 1, 0, 1);
         x.step(60);
         x.send(0, 1, 0, 0);
@@ -321,7 +309,7 @@ public final class NetTest {
     }
 
     private static void overMidnight() {
-        TelegraphHouse x = net(2, 2);
+        TelegraphHouse x = Due.net(2, 2);
         x.line(0, 1, 1, 23, 1);
         x.step(59);
         x.send(0, 0, 1, 0);
@@ -336,7 +324,7 @@ public final class NetTest {
     }
 
     private static void priorities() {
-        TelegraphHouse x = net(2, 5);
+        TelegraphHouse x = Due.net(2, 5);
         x.line(0, 1, 1, 0, 0);
         x.send(3, 0, 1, 0);
         x.send(4, 0, 1, 1);
@@ -354,7 +342,7 @@ public final class NetTest {
     }
 
     private static void queues() {
-        TelegraphHouse x = net(3, 3);
+        TelegraphHouse x = Due.net(3, 3);
         x.line(0, 1, 2, 0, 0);
         x.line(0, 2, 2, 0, 0);
         Due.due("none", x.queue(0, 0), NONE);
@@ -375,7 +363,7 @@ public final class NetTest {
     }
 
     private static void losses() {
-        TelegraphHouse x = net(2, 3);
+        TelegraphHouse x = Due.net(2, 3);
         x.line(0, 1, 4, 0, 0);
         Due.due("unknown", x.lose(1), UNKNOWN);
         Due.due("unknown below", x.lose(-1), UNKNOWN);
@@ -398,7 +386,7 @@ public final class NetTest {
     }
 
     private static void lossesEitherWay() {
-        TelegraphHouse x = net(3, 3);
+        TelegraphHouse x = Due.net(3, 3);
         x.line(0, 1, 9, 0, 0);
         x.line(1, 2, 1, 0, 0);
         x.lose(0);
@@ -416,7 +404,7 @@ public final class NetTest {
     }
 
     private static void asking() {
-        TelegraphHouse x = net(3, 5);
+        TelegraphHouse x = Due.net(3, 5);
         x.line(0, 1, 2, 0, 0);
         x.line(1, 2, 2, 0, 0);
         Due.due("unknown", x.ask(3), UNKNOWN);
@@ -453,7 +441,7 @@ public final class NetTest {
 
     /** Asked for at once, they wait by number, however they were sent. */
     private static void byNumber() {
-        TelegraphHouse x = net(2, 3);
+        TelegraphHouse x = Due.net(2, 3);
         x.line(0, 1, 1, 0, 0);
         for (int m = 2; m >= 0; m--) {
             x.lose(0);
@@ -474,7 +462,7 @@ public final class NetTest {
 
     /** What send() answers are messages; the ledger has what was asked for again as one more. */
     private static void askedForIsNoMessageMore() {
-        TelegraphHouse x = net(3, 4);
+        TelegraphHouse x = Due.net(3, 4);
         x.line(0, 1, 1, 0, 0);
         Due.due("first", x.send(2, 0, 1, 0), 1);
         for (int i = 1; i <= 3; i++) {
@@ -501,7 +489,7 @@ public final class NetTest {
 
     /** What is asked for again is no message more, but it waits behind all that were sent ahead. */
     private static void orderGoesOn() {
-        TelegraphHouse x = net(2, 3);
+        TelegraphHouse x = Due.net(2, 3);
         x.line(0, 1, 1, 0, 0);
         x.lose(0);
         Due.due("first", x.send(1, 0, 1, 0), 1);
@@ -520,7 +508,7 @@ public final class NetTest {
     }
 
     private static void askingByNewPath() {
-        TelegraphHouse x = net(3, 1);
+        TelegraphHouse x = Due.net(3, 1);
         x.line(0, 1, 9, 0, 0);
         x.lose(0);
         x.send(0, 0, 1, 0);
@@ -536,7 +524,7 @@ public final class NetTest {
 
     /** A message keeps the path, and its lines, as they were when it was sent. */
     private static void keptPath() {
-        TelegraphHouse x = net(3, 2);
+        TelegraphHouse x = Due.net(3, 2);
         x.line(0, 1, 5, 0, 0);
         x.line(1, 2, 20, 0, 0);
         x.send(0, 0, 2, 0);
@@ -553,7 +541,7 @@ public final class NetTest {
 
     /** Of several lines between two: the quickest, of like ones the lesser. */
     private static void likeLines() {
-        TelegraphHouse x = net(2, 2);
+        TelegraphHouse x = Due.net(2, 2);
         x.line(0, 1, 9, 0, 0);
         x.line(1, 0, 4, 0, 0);
         x.line(0, 1, 4, 0, 0);
@@ -603,7 +591,7 @@ public final class NetTest {
     }
 
     private static void counts() {
-        TelegraphHouse x = net(3, 6);
+        TelegraphHouse x = Due.net(3, 6);
         x.book(0, 1);
         x.book(0, 1);
         x.line(0, 1, 2, 0, 0);
