@@ -15,6 +15,7 @@ public final class BookEdgeTest {
         stepBounds();
         threeBooks();
         thirtyPhrases();
+        thirtyPhrasesOfFourWords();
         oneToFourWords();
         noNumberInAPhrase();
         phraseFaults();
@@ -132,6 +133,27 @@ public final class BookEdgeTest {
         Due.due("no other", x.groupOf(0, 30), UNKNOWN);
     }
 
+    private static void thirtyPhrasesOfFourWords() {
+        Due.sentence("PHRASES, 30 at most, of 1 to 4 WORDS");
+        TelegraphHouse x = new TelegraphHouse();
+        x.book(7, 3);
+        for (int k = 0; k < 30; k++) {
+            Due.due("phrase " + k, Due.phrase(x, 0, "four words " + name(k) + " more"), k + 1);
+        }
+        Due.due("one more", Due.phrase(x, 0, "four words of more"), FULL);
+        x.cut(0);
+        x.close(0);
+        for (int k : new int[] {0, 1, 28, 29}) {
+            int m = Due.message(x, "four words " + name(k) + " more");
+            Due.due("message of phrase " + k, x.condense(m, 0), 1);
+            Due.due("its phrase", x.part(m, 0, 2), k);
+            Due.due("its group", x.group(m, 0), SOUND[7 + 3 * k]);
+            Due.due("expands", x.expands(m), 1);
+            Due.setGroup(x, m, 0, SOUND[7 + 3 * 30]);
+            Due.due("the group that phrase 30 would have", x.expands(m), 2);
+        }
+    }
+
     private static void oneToFourWords() {
         Due.sentence("OUTSIDE: its TOKENS are not 1 to 4 WORDS");
         for (int n = 1; n <= 20; n++) {
@@ -156,6 +178,10 @@ public final class BookEdgeTest {
             Due.due("the tape stays", x.count(4), text.length());
             Due.due("no phrase", x.close(0), 0);
         }
+        TelegraphHouse x = new TelegraphHouse();
+        x.book(0, 1);
+        Due.message(x, "a 1 2 3 4 5");
+        Due.due("numbers of a message that was read ahead of it", Due.phrase(x, 0, "b"), 1);
     }
 
     private static void phraseFaults() {

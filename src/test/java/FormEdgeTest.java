@@ -14,6 +14,7 @@ public final class FormEdgeTest {
         wordsSpelled();
         lettersThatAreNotThere();
         phraseIsJustItsWords();
+        phraseBehindTheEnd();
         fewestGroups();
         fewestParts();
         moreTokensAtTheFirstPart();
@@ -38,6 +39,9 @@ public final class FormEdgeTest {
         failsAheadOfOthers();
         toOthers();
         toJustItsTokens();
+        moreThanTwentyTokens();
+        eightyTokens();
+        behindTheFormsEnd();
         expandsRefused();
         aboutBounds();
         aboutWithoutForm();
@@ -172,6 +176,22 @@ public final class FormEdgeTest {
         parts(condensed("a b", "c", "d", "a b"), "its number", phrase(2, 2));
         Due.due("its group", condensed("a b", "c", "d", "a b").group(0, 0), new TelegraphHouse().sound(2));
         parts(condensed("0 7"), "numbers", number(), number());
+    }
+
+    /** Twenty tokens, the last ones of which a phrase begins with. */
+    private static void phraseBehindTheEnd() {
+        Due.sentence("for as many WORDS that are just its WORDS");
+        String[] words = {"a", "b", "c", "d"};
+        for (int n = 1; n <= 4; n++) {
+            StringBuilder text = new StringBuilder("7 ".repeat(20 - n));
+            for (int i = 0; i < n; i++) {
+                text.append(words[i]).append(' ');
+            }
+            TelegraphHouse x = condensed(text.toString(), "a b c d");
+            Due.due(n + " words of four: groups", x.about(0, 2), n == 4 ? 17 : 20);
+            Due.due(n + " words of four: the last part", x.part(0, n == 4 ? 16 : 19, 0), n == 4 ? 0 : 1);
+            Due.due("expands", x.expands(0), 1);
+        }
     }
 
     private static void fewestGroups() {
@@ -555,6 +575,45 @@ public final class FormEdgeTest {
         Due.sentence("Whether the FORM of a MESSAGE expands to just its TOKENS: 1");
         expands("a phrase, spelled", 1, "7 up", 1, Due.group(23, 2, 20, 15, 0));
         expands("all as it was", 1, "7 8", 0, digits(25, 7), 1, digits(25, 8));
+    }
+
+    private static void moreThanTwentyTokens() {
+        Due.sentence("0: to others");
+        TelegraphHouse x = condensed("up ".repeat(19) + "a", "a b", "up");
+        Due.due("twenty groups", x.about(0, 2), 20);
+        Due.due("as it was", x.expands(0), 1);
+        Due.setGroup(x, 0, 19, x.groupOf(0, 0));
+        Due.due("a twenty-first token", x.expands(0), 0);
+    }
+
+    /** Each of 80 groups is a token of its own, and each of them is looked at. */
+    private static void eightyTokens() {
+        Due.sentence("TO EXPAND a FORM, as its GROUPS are then, .. from the first on");
+        TelegraphHouse x = condensed("zzzzzzzzzzzz ".repeat(20));
+        for (int k = 0; k < 80; k++) {
+            Due.setGroup(x, 0, k, digits(25, k));
+        }
+        Due.due("80 numbers", x.expands(0), 0);
+        x.hurt(0, 79, 4, 24);
+        Due.due("the last one fails", x.expands(0), 2);
+    }
+
+    /** What a longer form left behind the end of a shorter one does not belong to it. */
+    private static void behindTheFormsEnd() {
+        Due.sentence("what belongs to it is missing");
+        TelegraphHouse x = Due.withBook(0, 1, "a b");
+        x.book(50, 1);
+        x.close(1);
+        Due.message(x, "7 a b 8");
+        Due.message(x, "7 a b a");
+        for (int m = 0; m < 2; m++) {
+            Due.due("the longer form of " + m, x.condense(m, 1), 4);
+            Due.due("the shorter form of " + m, x.condense(m, 0), 3);
+        }
+        Due.setGroup(x, 0, 2, digits(24, 1));
+        Due.due("24 at the end, where a 25 was behind it", x.expands(0), 2);
+        Due.setGroup(x, 1, 2, Due.group(23, 4, 0, 0, 0));
+        Due.due("four letters, where a 23 was behind them", x.expands(1), 2);
     }
 
     private static void expandsRefused() {

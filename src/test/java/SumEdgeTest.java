@@ -19,6 +19,7 @@ public final class SumEdgeTest {
         bothZero();
         aLetterAltered();
         noPlaceOfTheBlock();
+        placeOfAnotherBlock();
         noPlaceOfAShorterBlock();
         letterBelow0();
         letterAbove25();
@@ -125,7 +126,6 @@ public final class SumEdgeTest {
         sums(0, -1, 25, 25, 25, 25, 1);
         sums(1, -1, 25, 25, 25, 25, 2);
         sums(24, -1, 25, 25, 25, 25, 25);
-        Due.sentence("A, the sum of its letters, of a BLOCK that is full");
         TelegraphHouse x = zeros(8);
         for (int p = 1; p <= 40; p++) {
             put(x, 0, p, 25);
@@ -221,6 +221,21 @@ public final class SumEdgeTest {
         TelegraphHouse z = fives(8, 0);
         Due.due("place 6 of a full block", mendTwo(z, 0, 4, 2), REPAIRED);
         Due.due("its letter", letter(z, 0, 6), 4);
+    }
+
+    /** Places 0 and 41 of block 1 would be in the blocks beside it, whose letters could take it. */
+    private static void placeOfAnotherBlock() {
+        Due.sentence("if there is a place p of it");
+        for (int first : new int[] {1, 40}) {
+            TelegraphHouse x = fives(17, 1);
+            put(x, 0, 40, 5);
+            put(x, 2, 1, 5);
+            x.guard(0);
+            Due.due(first == 1 ? "place 0" : "place 41", mendTwo(x, 1, first, first == 1 ? 2 : 39), REFUSED);
+            Due.due("block 1", x.mended(0, 1), REFUSED);
+            Due.due("the letter ahead stays", letter(x, 0, 40), 5);
+            Due.due("the letter behind stays", letter(x, 2, 1), 5);
+        }
     }
 
     private static void noPlaceOfAShorterBlock() {

@@ -320,7 +320,7 @@ public final class TapeEdgeTest {
     }
 
     private static void everyByteBehindADigit() {
-        Due.sentence("a letter behind a digit, without a blank");
+        Due.sentence("a letter behind a digit .. without a blank");
         for (int b = 1; b < 256; b++) {
             String text = "7" + (char) b;
             if (isDigit(b) || b == 32) {
