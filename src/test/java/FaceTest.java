@@ -25,6 +25,25 @@ public final class FaceTest {
         "ledger(int,int)", "count(int)",
     };
 
+    /** The calls as the document tells them, each row behind what the interface says ahead of it. */
+    private static final String[][] SECTIONS = {
+        {"the tape", "feed(long w)", "cut(int n)", "message()"},
+        {"books", "book(int start, int step)", "phrase(int book)", "close(int book)",
+            "groupOf(int book, int k)", "sound(int n)", "distance(int book)"},
+        {"messages", "about(int message, int what)", "condense(int message, int book)",
+            "part(int message, int i, int what)", "group(int message, int k)", "expands(int message)",
+            "best(int message)"},
+        {"sums", "guard(int message)", "sum(int message, int block, int what)",
+            "hurt(int message, int k, int place, int letter)", "swap(int message, int k, int place)",
+            "mend(int message)", "mended(int message, int block)"},
+        {"charges", "charge(int message, int zone, boolean urgent, boolean night, boolean reply)"},
+        {"the net", "station()", "line(int a, int b, int minutes, int from, int to)",
+            "path(int a, int b, int i)", "far(int a, int b)",
+            "send(int message, int a, int b, int priority)", "step(int n)", "clock()",
+            "where(int message, int what)", "queue(int station, int k)", "lose(int line)",
+            "ask(int station)", "ledger(int station, int what)", "count(int what)"},
+    };
+
     private static final String[] BANNED = {
         "throw", "throws", "try", "catch", "synchronized", "assert", "->", "::", "Exact",
         "hashCode", "System\\.(?!arraycopy)", "Random", "Thread", "protected", "package",
@@ -33,6 +52,7 @@ public final class FaceTest {
     public static void main(String[] args) throws Exception {
         constants();
         methods();
+        sections();
         fields();
         words();
         classes();
@@ -75,6 +95,23 @@ public final class FaceTest {
                         || Modifier.isPrivate(m.getModifiers()));
             }
         }
+    }
+
+    private static void sections() throws Exception {
+        Due.sentence("Ahead of the calls .. the interface says: ---- ..");
+        List<String> due = new ArrayList<>();
+        for (String[] section : SECTIONS) {
+            due.add("---- " + section[0]);
+            due.addAll(Arrays.asList(section).subList(1, section.length));
+        }
+        List<String> found = new ArrayList<>();
+        Matcher m = Pattern.compile("(?m)^    (?:// (---- .*)|public int (\\w+\\(.*\\)) \\{)$")
+                .matcher(Files.readString(SOURCE));
+        while (m.find()) {
+            found.add(m.group(1) != null ? m.group(1) : m.group(2));
+        }
+        Due.due("the calls in their order " + found, found.equals(due));
+        Due.sentence("");
     }
 
     private static String signature(Method m) {
