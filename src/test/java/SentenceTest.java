@@ -1,6 +1,6 @@
 /**
  * Sentences of the document that name no bound, each with a test of its own that quotes it. The
- * answers were worked out by hand from its words.
+ * answers were worked out by hand from its words, but for those of sound(), which a search finds.
  */
 public final class SentenceTest {
     private static final int UNKNOWN = TelegraphHouse.UNKNOWN;
